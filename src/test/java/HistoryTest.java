@@ -12,6 +12,7 @@ public final class HistoryTest {
         noChanges();
         snapshots();
         snapshotHoldsEverything();
+        oneStateOverAnother();
         twoSlots();
         historyAndSlots();
         wrongSlots();
@@ -165,6 +166,48 @@ public final class HistoryTest {
         Check.due("48 the votes come back", x.votes(1, 99), 70);
         Check.due("48 joining goes on", x.readPlate(2, 3, 20, 4, 4), 4);
         Check.dueThrow("48 the time comes back", IllegalArgumentException.class, () -> x.readAxles(0, 0, 19, 2));
+    }
+
+    /** A snapshot comes back whole, though other passages, trips and invoices have had its numbers. */
+    private static void oneStateOverAnother() {
+        FreeFlowToll x = Check.with(NETWORK);
+        x.saveSnapshot(1);
+        x.readPlate(0, 1, 10, 99, 70);
+        x.readPlate(0, 1, 10, 98, 20);
+        x.readAxles(0, 1, 10, 4);
+        x.readTag(1, 0, 12, 0);
+        x.readTag(2, 0, 13, 0);
+        x.bill(99999);
+        x.pay(0, 5);
+        x.dispute(1);
+        x.readPlate(2, 3, 14, 97, 30);
+        String saved = Check.dump(x);
+        x.saveSnapshot(0);
+        x.restoreSnapshot(1);
+        x.readTag(1, 2, 20, 0);
+        x.readTag(1, 2, 90, 0);
+        x.bill(90);
+        x.readPlate(2, 0, 91, 55, 90);
+        x.readPlate(2, 0, 91, 54, 90);
+        x.readAxles(0, 3, 92, 9);
+        x.assignPlate(3, 44);
+        x.assignAxles(3, 2);
+        x.readTag(0, 2, 300, 0);
+        x.dismiss(4);
+        x.bill(99999);
+        x.pay(1, 1);
+        String other = Check.dump(x);
+        x.restoreSnapshot(0);
+        Check.same("48 the first state comes back", Check.dump(x), saved);
+        Check.due("48 its votes", x.votes(0, 98), 20);
+        Check.due("48 its votes", x.votes(1, 54), 0);
+        Check.due("48 its votes", x.votes(3, 97), 30);
+        Check.due("48 its lanes", x.readAxles(2, 3, 15, 5), 3);
+        x.dismiss(3);
+        x.undo();
+        x.undo();
+        Check.same("46 and by undo", Check.dump(x), saved);
+        Check.due("these are different states", saved.equals(other), false);
     }
 
     private static void twoSlots() {

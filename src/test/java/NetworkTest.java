@@ -14,6 +14,8 @@ public final class NetworkTest {
         lowestOffset();
         afterError();
         afterSuccess();
+        manyNetworks();
+        nothingStays();
         counts();
         classes();
         Check.end("NetworkTest");
@@ -70,6 +72,10 @@ public final class NetworkTest {
         Check.appendText(x, "gantries 3;link 0 1 9 100;");
         Check.due("3 only the first bytes count", x.parse(11), 0);
         Check.due("3 only the first bytes count, gantries", x.gantryCount(), 3);
+        Check.appendText(x, "gantries 3;link 0 1 9 100;");
+        Check.due("3 a word that is cut off", x.parse(14), Check.error(11, 1));
+        Check.appendText(x, "gantries 10;");
+        Check.due("3 a number that is cut off", x.parse(10), Check.error(9, 2));
     }
 
     private static void parseGood() {
@@ -124,6 +130,9 @@ public final class NetworkTest {
         bad("gantries 2;^gantries 2;", 1);
         bad("gantries 2;^lin 0 1 9 9;", 1);
         bad("gantries 2;^links 0 1 9 9;", 1);
+        bad("gantries 2;^linkz 0 1 9 9;", 1);
+        bad("gantries 2;^sink 0 1 9 9;", 1);
+        bad("gantries 2;^bag 5 2;", 1);
         bad("gantries 2;^confidences 5;", 1);
         bad("gantries 2;^confidenceconfidence 5;", 1);
         bad("gantries 2;^classes 2 100;", 1);
@@ -256,6 +265,58 @@ public final class NetworkTest {
         Check.due("3 parse(0)", x.parse(0), 0);
         Check.same("3 parse(0) clears everything", Check.dump(x), Check.dump(new FreeFlowToll()));
         Check.due("3 parse(0) clears the history", x.undo(), -1);
+    }
+
+    /** Each network begins anew, however many were read before it. */
+    private static void manyNetworks() {
+        FreeFlowToll x = new FreeFlowToll();
+        String full = "gantries 3;link 0 1 9 5;class 2 50;tag 5 2;window 9;confidence 9;fee 9;";
+        for (int n = 0; n < 3; n++) {
+            Check.due("3 a network with all statements", Check.parse(x, full), 1);
+            Check.due("3 its tags", x.tagCount(), 1);
+        }
+        for (int n = 0; n < 3; n++) {
+            Check.due("3 a network without settings", Check.parse(x, "gantries 3;link 1 2 9 8;"), 1);
+            Check.due("3 no tags", x.tagCount(), 0);
+            Check.due("3 no classes", x.classOf(9), -1);
+            Check.due("3 no old links", x.routeLinks(0, 1, 0), -1);
+            x.readPlate(1, 0, 0, 7, 59);
+            Check.due("3 confidence is 60", x.passagePlate(0), -1);
+            Check.due("3 window is 1", x.readPlate(1, 0, 2, 7, 60), 1);
+            Check.due("3 no fee and no old prices", x.previewTotal(2), 8);
+        }
+        for (int n = 0; n < 3; n++) {
+            Check.due("3 a network that fails late", Check.parse(x, full + "fee"), Check.error(full.length(), 3));
+        }
+        Check.due("3 the last good network", x.routePrice(1, 2, 9), 8);
+    }
+
+    /** Nothing of the passages, trips and invoices before is left in those after. */
+    private static void nothingStays() {
+        FreeFlowToll x = Check.with("gantries 2;link 0 1 9 5;tag 5 2;");
+        for (int plate = 11; plate <= 14; plate++) {
+            x.readPlate(0, 0, 50, plate, 90);
+        }
+        x.readTag(0, 0, 50, 0);
+        x.readAxles(0, 0, 50, 9);
+        x.assignPlate(0, 6);
+        x.assignAxles(0, 7);
+        x.bill(50);
+        x.pay(0, 3);
+        x.dispute(0);
+        x.resolve(0, true);
+        Check.parse(x, "gantries 2;link 0 1 9 5;tag 5 2;");
+        x.readPlate(0, 0, 0, 15, 70);
+        Check.due("3 no old votes", x.votes(0, 11), 0);
+        Check.due("3 no old plates", x.passagePlate(0), 15);
+        Check.due("3 room for four plates", x.votes(0, 15), 70);
+        Check.due("3 no old tag", x.passageTag(0), -1);
+        Check.due("3 no old axles", x.passageAxles(0), -1);
+        Check.due("3 open", x.passageState(0), 0);
+        Check.due("3 no old trip", x.tripOf(0), -1);
+        x.bill(0);
+        Check.due("3 no old dispute", x.tripState(0), 0);
+        Check.due("3 no old payment", x.balance(0), 5);
     }
 
     private static void counts() {

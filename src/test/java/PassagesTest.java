@@ -157,6 +157,16 @@ public final class PassagesTest {
         Check.due("37 a new passage", x.readPlate(0, 0, 4, 5, 100), 1);
         Check.due("16 the fifth plate counts in a new passage", x.votes(1, 5), 100);
         Check.due("16 the first plate does not", x.votes(1, 1), 0);
+        Check.due("16 a plate of the next passage", x.votes(0, 5), 0);
+
+        FreeFlowToll y = Check.with(NETWORK);
+        y.readPlate(0, 0, 1, 1, 10);
+        y.readAxles(0, 1, 1, 4);
+        for (int plate = 2; plate <= 5; plate++) {
+            y.readPlate(0, 0, 1, plate, 90);
+        }
+        Check.due("16 the fifth plate does not count for the next passage", y.votes(1, 5), 0);
+        Check.due("14 the next passage has no plate", y.passagePlate(1), -1);
     }
 
     private static void axles() {
@@ -233,6 +243,10 @@ public final class PassagesTest {
         x.readTag(0, 0, 1, 0);
         x.readAxles(0, 1, 1, 4);
         x.readPlate(0, 2, 1, 5, 10);
+        Check.due("21 the passages without a vehicle", x.passagesToReview(), 2);
+        x.assignPlate(0, 12);
+        Check.due("21 the first passage counts", x.passagesToReview(), 3);
+        x.undo();
         x.readTag(0, 3, 1, 1);
         x.assignPlate(3, 9);
         Check.due("20 openPassages", x.openPassages(), 4);
