@@ -94,9 +94,7 @@ public final class FreeFlowToll {
     }
 
     public int classOf(int axles) throws IllegalArgumentException {
-        if (axles < MIN_AXLES || axles > MAX_AXLES) {
-            throw new IllegalArgumentException("axles out of range");
-        }
+        requireAxles(axles);
         return network.classFor(axles);
     }
 
@@ -489,13 +487,13 @@ public final class FreeFlowToll {
         }
 
         private int minutesOf(int from, int to) {
-            int cell = from * MAX_GANTRIES + to;
-            return cell >= 0 && cell < linkMinutes.length ? linkMinutes[cell] : 0;
+            boolean known = from >= 0 && from < gantries && to >= 0 && to < gantries;
+            return known ? linkMinutes[from * MAX_GANTRIES + to] : 0;
         }
 
         private int priceOf(int from, int to) {
-            int cell = from * MAX_GANTRIES + to;
-            return cell >= 0 && cell < linkPrice.length ? linkPrice[cell] : 0;
+            boolean known = from >= 0 && from < gantries && to >= 0 && to < gantries;
+            return known ? linkPrice[from * MAX_GANTRIES + to] : 0;
         }
 
         private void addLink(int from, int to, int minutes, int price) {
@@ -628,13 +626,9 @@ public final class FreeFlowToll {
             feeSeen = false;
             if (length > 0) {
                 readHead();
-                readStatements();
             }
-        }
-
-        private void readStatements() {
             // Each statement takes a byte at least, so there are never more statements than bytes.
-            for (int n = 0; n <= length && failure == 0; n++) {
+            for (int n = 0; n < length && failure == 0; n++) {
                 advance();
                 if (token == END) {
                     return;
@@ -782,16 +776,11 @@ public final class FreeFlowToll {
             }
             token = kindOf(text[start]);
             end++;
-            if (token == WORD || token == NUMBER) {
-                takeRun(token == WORD ? MAX_LETTERS : MAX_DIGITS);
-            }
-        }
-
-        private void takeRun(int longest) {
-            while (end < length && kindOf(text[end]) == token) {
+            boolean run = token == WORD || token == NUMBER;
+            while (run && end < length && kindOf(text[end]) == token) {
                 end++;
             }
-            if (end - start > longest) {
+            if (run && end - start > (token == WORD ? MAX_LETTERS : MAX_DIGITS)) {
                 token = ILLEGAL;
             }
         }

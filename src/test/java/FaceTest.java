@@ -9,7 +9,9 @@ import java.nio.file.Path;
 import java.util.Arrays;
 import java.util.HashSet;
 import java.util.List;
+import java.util.Map;
 import java.util.Set;
+import java.util.TreeMap;
 import java.util.TreeSet;
 import java.util.regex.Matcher;
 import java.util.regex.Pattern;
@@ -37,6 +39,7 @@ public final class FaceTest {
         fieldsAndParameters();
         words();
         shortMethods();
+        depthOfCalls();
         room();
         Check.end("FaceTest");
     }
@@ -148,6 +151,42 @@ public final class FaceTest {
                 Check.due("a short method: " + lines.get(i).trim(), length >= 2 && length <= 60, true);
             }
         }
+    }
+
+    /** Methods of one name count as one, and a call of its own name (from a whole to its parts) as one level more. */
+    private static void depthOfCalls() throws IOException {
+        List<String> lines = source();
+        Pattern head = Pattern.compile("( {4}| {8})(?:private|public) (?:static )?(?:\\w+|int\\[\\]) (\\w+)\\(.*");
+        Map<String, Set<String>> calls = new TreeMap<>();
+        for (int i = 0; i < lines.size(); i++) {
+            Matcher m = head.matcher(lines.get(i));
+            if (m.matches()) {
+                int length = lines.subList(i, lines.size()).indexOf(m.group(1) + "}");
+                Set<String> called = calls.computeIfAbsent(m.group(2), name -> new TreeSet<>());
+                Matcher c = Pattern.compile("\\b([a-z]\\w*)\\(").matcher(
+                        String.join("\n", lines.subList(i + 1, i + length)));
+                while (c.find()) {
+                    called.add(c.group(1));
+                }
+            }
+        }
+        Check.due("the calls were found", calls.size() > 100 && calls.get("parse").contains("readText"), true);
+        for (String name : calls.keySet()) {
+            int depth = depth(name, calls, 0);
+            Check.due(name + " goes " + depth + " deep", depth <= 8, true);
+        }
+    }
+
+    private static int depth(String name, Map<String, Set<String>> calls, int above) {
+        int below = 0;
+        for (String called : calls.get(name)) {
+            if (called.equals(name)) {
+                below = Math.max(below, 1);
+            } else if (calls.containsKey(called) && above < 20) {
+                below = Math.max(below, depth(called, calls, above + 1));
+            }
+        }
+        return 1 + below;
     }
 
     /** What a run makes: an object, and ten rows of history and two snapshots at most. */

@@ -174,13 +174,13 @@ public final class HistoryTest {
         x.saveSnapshot(1);
         x.readPlate(0, 1, 10, 99, 70);
         x.readPlate(0, 1, 10, 98, 20);
-        x.readAxles(0, 1, 10, 4);
+        x.readAxles(0, 1, 10, 2);
         x.readTag(1, 0, 12, 0);
         x.readTag(2, 0, 13, 0);
         x.bill(99999);
         x.pay(0, 5);
         x.dispute(1);
-        x.readPlate(2, 3, 14, 97, 30);
+        x.readPlate(2, 1, 14, 97, 30);
         String saved = Check.dump(x);
         x.saveSnapshot(0);
         x.restoreSnapshot(1);
@@ -202,7 +202,7 @@ public final class HistoryTest {
         Check.due("48 its votes", x.votes(0, 98), 20);
         Check.due("48 its votes", x.votes(1, 54), 0);
         Check.due("48 its votes", x.votes(3, 97), 30);
-        Check.due("48 its lanes", x.readAxles(2, 3, 15, 5), 3);
+        Check.due("48 its lanes", x.readAxles(2, 1, 15, 5), 3);
         x.dismiss(3);
         x.undo();
         x.undo();
