@@ -266,9 +266,9 @@ public final class BillingTest {
         for (int n = 0; n < 41; n++) {
             x.readPlate(n % 2, 0, 10 * n, 100 + n, 60);
         }
-        Check.badState("42 41 invoices", x, () -> x.bill(400));
-        Check.badState("42 41 invoices", x, () -> x.bill(99999));
-        Check.badArgument("42 the cutoff comes first", x, () -> x.bill(100000));
+        Check.badState("42 41 invoices", () -> x.bill(400));
+        Check.badState("42 41 invoices", () -> x.bill(99999));
+        Check.badArgument("42 the cutoff comes first", () -> x.bill(100000));
         Check.due("22 40 trips", x.previewTrips(399), 40);
         Check.due("23 40 totals", x.previewTotal(399), 440);
         Check.due("22 41 trips", x.previewTrips(400), 41);
@@ -276,7 +276,7 @@ public final class BillingTest {
         Check.due("42 40 invoices", x.bill(399), 40);
         Check.due("30 40 invoices", x.invoiceCount(), 40);
         Check.due("35 outstanding", x.outstanding(), 440);
-        Check.badState("42 a 41st invoice", x, () -> x.bill(400));
+        Check.badState("42 a 41st invoice", () -> x.bill(400));
         Check.due("42 nothing to be considered", x.bill(399), 0);
         Check.due("43 the last invoice", x.pay(39, 4), 7);
         Check.due("32 the last invoice", x.invoicePlate(39), 139);
@@ -303,7 +303,7 @@ public final class BillingTest {
         }
         Check.due("22 80 vehicles", y.previewTrips(99999), 80);
         Check.due("23 80 vehicles", y.previewTotal(99999), 960);
-        Check.badState("42 80 invoices", y, () -> y.bill(99999));
+        Check.badState("42 80 invoices", () -> y.bill(99999));
     }
 
     private static void noChange() {
@@ -324,9 +324,9 @@ public final class BillingTest {
         FreeFlowToll x = Check.with(NETWORK);
         x.readTag(0, 0, 0, 1);
         for (int cutoff : new int[] {-1, 100000, FAR[0], FAR[1]}) {
-            Check.badArgument("22 previewTrips(" + cutoff + ")", x, () -> x.previewTrips(cutoff));
-            Check.badArgument("23 previewTotal(" + cutoff + ")", x, () -> x.previewTotal(cutoff));
-            Check.badArgument("42 bill(" + cutoff + ")", x, () -> x.bill(cutoff));
+            Check.badArgument("22 previewTrips(" + cutoff + ")", () -> x.previewTrips(cutoff));
+            Check.badArgument("23 previewTotal(" + cutoff + ")", () -> x.previewTotal(cutoff));
+            Check.badArgument("42 bill(" + cutoff + ")", () -> x.bill(cutoff));
         }
         Check.due("22 previewTrips(0)", x.previewTrips(0), 1);
         Check.due("23 previewTotal(99999)", x.previewTotal(99999), 70);
@@ -339,14 +339,14 @@ public final class BillingTest {
         x.readTag(0, 0, 500, 0);
         x.bill(500);
         for (int t : new int[] {-1, 2, 79, 80, FAR[0], FAR[1]}) {
-            Check.badIndex("25 tripAmount(" + t + ")", x, () -> x.tripAmount(t));
-            Check.badIndex("26 tripClass(" + t + ")", x, () -> x.tripClass(t));
-            Check.badIndex("27 tripPassages(" + t + ")", x, () -> x.tripPassages(t));
-            Check.badIndex("28 tripState(" + t + ")", x, () -> x.tripState(t));
-            Check.badIndex("29 invoiceOf(" + t + ")", x, () -> x.invoiceOf(t));
-            Check.badIndex("44 dispute(" + t + ")", x, () -> x.dispute(t));
-            Check.badIndex("45 resolve(" + t + ", true)", x, () -> x.resolve(t, true));
-            Check.badIndex("45 resolve(" + t + ", false)", x, () -> x.resolve(t, false));
+            Check.badIndex("25 tripAmount(" + t + ")", () -> x.tripAmount(t));
+            Check.badIndex("26 tripClass(" + t + ")", () -> x.tripClass(t));
+            Check.badIndex("27 tripPassages(" + t + ")", () -> x.tripPassages(t));
+            Check.badIndex("28 tripState(" + t + ")", () -> x.tripState(t));
+            Check.badIndex("29 invoiceOf(" + t + ")", () -> x.invoiceOf(t));
+            Check.badIndex("44 dispute(" + t + ")", () -> x.dispute(t));
+            Check.badIndex("45 resolve(" + t + ", true)", () -> x.resolve(t, true));
+            Check.badIndex("45 resolve(" + t + ", false)", () -> x.resolve(t, false));
         }
         Check.due("what throws is no change", Check.undoAll(x), 3);
     }
@@ -357,12 +357,12 @@ public final class BillingTest {
         x.readTag(0, 0, 500, 0);
         x.bill(500);
         for (int i : new int[] {-1, 1, 39, 40, FAR[0], FAR[1]}) {
-            Check.badIndex("31 invoiceTag(" + i + ")", x, () -> x.invoiceTag(i));
-            Check.badIndex("32 invoicePlate(" + i + ")", x, () -> x.invoicePlate(i));
-            Check.badIndex("33 invoiceTotal(" + i + ")", x, () -> x.invoiceTotal(i));
-            Check.badIndex("34 balance(" + i + ")", x, () -> x.balance(i));
-            Check.badIndex("43 pay(" + i + ", 1)", x, () -> x.pay(i, 1));
-            Check.badIndex("43 pay(" + i + ", 0)", x, () -> x.pay(i, 0));
+            Check.badIndex("31 invoiceTag(" + i + ")", () -> x.invoiceTag(i));
+            Check.badIndex("32 invoicePlate(" + i + ")", () -> x.invoicePlate(i));
+            Check.badIndex("33 invoiceTotal(" + i + ")", () -> x.invoiceTotal(i));
+            Check.badIndex("34 balance(" + i + ")", () -> x.balance(i));
+            Check.badIndex("43 pay(" + i + ", 1)", () -> x.pay(i, 1));
+            Check.badIndex("43 pay(" + i + ", 0)", () -> x.pay(i, 0));
         }
         Check.due("what throws is no change", Check.undoAll(x), 3);
     }
@@ -382,7 +382,7 @@ public final class BillingTest {
         Check.due("35 a negative balance does not count", x.outstanding(), 0);
         Check.due("43 pay(0, 30)", x.pay(0, 30), -30);
         for (int cents : new int[] {0, -1, 100001, FAR[0], FAR[1]}) {
-            Check.badArgument("43 pay(0, " + cents + ")", x, () -> x.pay(0, cents));
+            Check.badArgument("43 pay(0, " + cents + ")", () -> x.pay(0, cents));
         }
         Check.due("46 undo the payment", x.undo(), 6);
         Check.due("34 balance(0)", x.balance(0), 0);
@@ -398,20 +398,20 @@ public final class BillingTest {
         x.readTag(0, 0, 500, 1);
         x.readTag(1, 0, 500, 0);
         x.bill(500);
-        Check.badState("45 not disputed", x, () -> x.resolve(0, true));
+        Check.badState("45 not disputed", () -> x.resolve(0, true));
         Check.due("44 dispute(2)", x.dispute(2), 1);
         Check.due("44 dispute(0)", x.dispute(0), 2);
         Check.due("28 disputed", x.tripState(0), 1);
-        Check.badState("44 disputed", x, () -> x.dispute(0));
+        Check.badState("44 disputed", () -> x.dispute(0));
         Check.due("45 confirmed", x.resolve(0, false), 140 + 0);
         Check.due("28 confirmed", x.tripState(0), 3);
-        Check.badState("44 confirmed", x, () -> x.dispute(0));
-        Check.badState("45 confirmed", x, () -> x.resolve(0, false));
+        Check.badState("44 confirmed", () -> x.dispute(0));
+        Check.badState("45 confirmed", () -> x.resolve(0, false));
         Check.due("44 resolved trips do not count", x.dispute(1), 2);
         Check.due("45 credited", x.resolve(2, true), 0);
         Check.due("28 credited", x.tripState(2), 2);
-        Check.badState("44 credited", x, () -> x.dispute(2));
-        Check.badState("45 credited", x, () -> x.resolve(2, true));
+        Check.badState("44 credited", () -> x.dispute(2));
+        Check.badState("45 credited", () -> x.resolve(2, true));
         Check.due("what throws is no change", Check.undoAll(x), 9);
     }
 

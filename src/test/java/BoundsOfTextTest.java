@@ -129,6 +129,12 @@ public final class BoundsOfTextTest {
         Check.due("the last statement counts", x.previewTotal(0), 5000);
         Check.due("append again", x.append(0, 0, 0, 0, 0), 20);
 
+        Bounds.changesNothing("append to a full buffer", () -> {
+            FreeFlowToll full = Bounds.busy();
+            Check.appendText(full, text);
+            return full;
+        }, full -> full.append(0x3f3f3f3f, 0x3f3f3f3f, 0x3f3f3f3f, 0x3f3f3f3f, 0x3f3f3f3f));
+
         FreeFlowToll y = new FreeFlowToll();
         Check.appendText(y, " ".repeat(899) + "?");
         Check.due("an error at the last byte", y.parse(900), Check.error(899, 1));

@@ -1,5 +1,5 @@
-import java.util.ArrayList;
 import java.util.List;
+import java.util.function.Consumer;
 
 /** Promises 46 to 48: undo, saveSnapshot, restoreSnapshot. */
 public final class HistoryTest {
@@ -19,22 +19,27 @@ public final class HistoryTest {
         Check.end("HistoryTest");
     }
 
-    private static void everyChange() {
+    private static final List<Consumer<FreeFlowToll>> CHANGES = List.of(
+            x -> x.readTag(0, 0, 10, 0), x -> x.readPlate(0, 1, 11, 99, 60), x -> x.readAxles(0, 1, 12, 5),
+            x -> x.assignPlate(1, 98), x -> x.assignAxles(1, 3), x -> x.readPlate(1, 0, 14, 97, 1),
+            x -> x.dismiss(2), x -> x.bill(99999), x -> x.pay(1, 50), x -> x.dispute(0));
+
+    private static FreeFlowToll changed(int changes) {
         FreeFlowToll x = Check.with(NETWORK);
-        List<String> states = new ArrayList<>();
-        Runnable[] changes = {
-            () -> x.readTag(0, 0, 10, 0), () -> x.readPlate(0, 1, 11, 99, 60), () -> x.readAxles(0, 1, 12, 5),
-            () -> x.assignPlate(1, 98), () -> x.assignAxles(1, 3), () -> x.readPlate(1, 0, 14, 97, 1),
-            () -> x.dismiss(2), () -> x.bill(99999), () -> x.pay(1, 50), () -> x.dispute(0)};
-        for (Runnable change : changes) {
-            states.add(Check.dump(x));
-            change.run();
+        CHANGES.subList(0, changes).forEach(change -> change.accept(x));
+        return x;
+    }
+
+    private static void everyChange() {
+        for (int left = 9; left >= 0; left--) {
+            FreeFlowToll x = changed(10);
+            for (int n = 9; n >= left; n--) {
+                Check.due("46 undo", x.undo(), n);
+            }
+            Check.same("46 undo takes back change " + left, Check.dump(x), Check.dump(changed(left)));
         }
-        for (int n = 9; n >= 0; n--) {
-            Check.due("46 undo", x.undo(), n);
-            Check.same("46 undo takes back change " + n, Check.dump(x), states.get(n));
-        }
-        Check.due("46 nothing more to undo", x.undo(), -1);
+        FreeFlowToll x = changed(10);
+        Check.due("46 ten changes", Check.undoAll(x), 10);
         Check.due("46 nothing more to undo", x.undo(), -1);
         Check.due("46 the time was taken back", x.readTag(0, 0, 0, 0), 0);
 

@@ -1,12 +1,18 @@
 import java.util.ArrayList;
+import java.util.Arrays;
 import java.util.List;
 import java.util.Random;
 
-/** Runs of random calls, always the same ones, on an object and on the model: every answer must agree. */
+/**
+ * Runs of random calls, always the same ones, on an object and on the model: every answer must agree. The
+ * questions at the end of a run go beyond the 512 calls that are promised an answer; the class answers on.
+ */
 public final class ModelTest {
     private static final int RUNS = 400;
     private static final int TEXTS = 4000;
     private static final int CALLS = 512;
+    private static final int LONG_RUNS = 20;
+    private static final int LONG_CALLS = 6000;
     private static final String[] QUESTIONS = {"gantryCount", "tagCount", "classOf", "routeLinks", "routePrice",
         "routeGantry", "passageCount", "passageGantry", "passageTime", "passageTag", "passagePlate", "passageAxles",
         "votes", "exceptions", "passageState", "tripOf", "openPassages", "passagesToReview", "previewTrips",
@@ -40,7 +46,13 @@ public final class ModelTest {
                 System.exit(1);
             }
         }
-        System.out.println("ModelTest: " + RUNS + " runs and " + TEXTS + " of texts alone agree with the model");
+        for (int seed = 0; seed < LONG_RUNS; seed++) {
+            if (!new ModelTest(seed).runLong()) {
+                System.exit(1);
+            }
+        }
+        System.out.println("ModelTest: " + RUNS + " runs and " + TEXTS + " of texts alone agree with the model, "
+                + LONG_RUNS + " long runs are sound");
     }
 
     private boolean run() {
@@ -74,6 +86,37 @@ public final class ModelTest {
             agreed = load();
         }
         return agreed && askEverything();
+    }
+
+    /** After 512 calls the answers are free, but no call may fail by itself. */
+    private boolean runLong() {
+        boolean sound = true;
+        for (int n = 0; sound && n < LONG_CALLS; n++) {
+            int kind = random.nextInt(1000);
+            if (kind < 20 && object.gantryCount() == 0 || kind == 0) {
+                String text = randomText();
+                sound = sound(call("parse", Check.appendText(object, text)));
+                time = 0;
+            } else if (kind < 30) {
+                sound = sound(call(random.nextInt(3) == 0 ? "restoreSnapshot" : "saveSnapshot", pick(2)));
+            } else if (kind < 60) {
+                sound = sound(call("undo"));
+            } else {
+                sound = sound(kind < 700 ? randomChange() : randomQuestion());
+            }
+        }
+        return sound;
+    }
+
+    private boolean sound(Object[] call) {
+        int[] a = (int[]) call[1];
+        String got = answer(() -> callObject((String) call[0], a));
+        boolean sound = !got.startsWith("throws.")
+                || got.matches("throws.java.lang.(IllegalArgument|IllegalState|IndexOutOfBounds)Exception");
+        if (!sound) {
+            System.out.println("a long run: " + call[0] + " " + Arrays.toString(a) + " " + got);
+        }
+        return sound;
     }
 
     // ---- calls
@@ -294,7 +337,8 @@ public final class ModelTest {
             } else {
                 String word = kind == 17 ? "window" : kind == 18 ? "confidence" : "fee";
                 if (s.indexOf(word) < 0 || random.nextInt(10) == 0) {
-                    s.append(word).append(random.nextInt(2) == 0 ? " " : "\n").append(1 + random.nextInt(9)).append(';');
+                    s.append(word).append(random.nextInt(2) == 0 ? " " : "\n");
+                    s.append(1 + random.nextInt(9)).append(';');
                 }
             }
         }

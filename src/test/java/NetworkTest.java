@@ -28,7 +28,7 @@ public final class NetworkTest {
         Check.due("1 undo", x.undo(), -1);
         Check.due("1 slot 0 is empty", x.restoreSnapshot(0), false);
         Check.due("1 slot 1 is empty", x.restoreSnapshot(1), false);
-        Check.badArgument("1 the buffer is empty", x, () -> x.parse(1));
+        Check.badArgument("1 the buffer is empty", () -> x.parse(1));
         Check.due("1 append to the empty buffer", x.append(0, 0, 0, 0, 0), 20);
         Check.due("1 NONE", FreeFlowToll.NONE, -1);
     }
@@ -40,7 +40,7 @@ public final class NetworkTest {
         }
         Check.due("2 append to a full buffer", x.append(1, 2, 3, 4, 5), -1);
         Check.due("2 append to a full buffer again", x.append(1, 2, 3, 4, 5), -1);
-        Check.badArgument("2 a full buffer holds no more", x, () -> x.parse(901));
+        Check.badArgument("2 a full buffer holds no more", () -> x.parse(901));
         Check.due("2 nothing but white space", x.parse(900), Check.error(900, 1));
         Check.due("2 append to the emptied buffer", x.append(0x67616e74, 0x72696573, 0x20323b00, 0, 0), 20);
         Check.due("2 the order of the bytes", x.parse(11), 0);
@@ -58,17 +58,17 @@ public final class NetworkTest {
     private static void parseLength() {
         FreeFlowToll x = new FreeFlowToll();
         int length = Check.appendText(x, "gantries 2;link 0 1 9 100;");
-        Check.badArgument("3 parse(-1)", x, () -> x.parse(-1));
-        Check.badArgument("3 parse(41)", x, () -> x.parse(41));
-        Check.badArgument("3 parse(min)", x, () -> x.parse(Integer.MIN_VALUE));
-        Check.badArgument("3 parse(max)", x, () -> x.parse(Integer.MAX_VALUE));
+        Check.badArgument("3 parse(-1)", () -> x.parse(-1));
+        Check.badArgument("3 parse(41)", () -> x.parse(41));
+        Check.badArgument("3 parse(min)", () -> x.parse(Integer.MIN_VALUE));
+        Check.badArgument("3 parse(max)", () -> x.parse(Integer.MAX_VALUE));
         Check.due("3 a refused length leaves the buffer", x.parse(length), 1);
-        Check.badArgument("3 a success empties the buffer", x, () -> x.parse(1));
+        Check.badArgument("3 a success empties the buffer", () -> x.parse(1));
         Check.due("3 parse(0)", x.parse(0), 0);
         Check.due("3 parse(0) gives the empty network", x.gantryCount(), 0);
         Check.appendText(x, "gantries 3;link 0 1 9 100;");
         Check.due("3 parse(0) with a text in the buffer", x.parse(0), 0);
-        Check.badArgument("3 parse(0) empties the buffer", x, () -> x.parse(1));
+        Check.badArgument("3 parse(0) empties the buffer", () -> x.parse(1));
         Check.appendText(x, "gantries 3;link 0 1 9 100;");
         Check.due("3 only the first bytes count", x.parse(11), 0);
         Check.due("3 only the first bytes count, gantries", x.gantryCount(), 3);
@@ -234,7 +234,7 @@ public final class NetworkTest {
         String before = Check.dump(x);
         Check.due("3 error", Check.parse(x, "gantries 2;tag 7 2;class 5 1;window 9;fee 3;oops;"), Check.error(44, 1));
         Check.same("3 after an error everything stays", Check.dump(x), before);
-        Check.badArgument("3 after an error the buffer is empty", x, () -> x.parse(1));
+        Check.badArgument("3 after an error the buffer is empty", () -> x.parse(1));
         Check.due("3 after an error the window stays", x.readAxles(2, 0, 11, 4), 2);
         Check.due("3 after an error undo goes on", x.undo(), 3);
         Check.same("3 after an error undo goes on", Check.dump(x), before);
@@ -335,12 +335,12 @@ public final class NetworkTest {
             Check.due("6 classOf(" + axles + ")", x.classOf(axles), due[axles - 2]);
         }
         for (int axles : new int[] {1, 10, 0, -1, Integer.MIN_VALUE, Integer.MAX_VALUE}) {
-            Check.badArgument("6 classOf(" + axles + ")", x, () -> x.classOf(axles));
+            Check.badArgument("6 classOf(" + axles + ")", () -> x.classOf(axles));
         }
         FreeFlowToll none = Check.with("gantries 2;");
         Check.due("6 classOf(9) without classes", none.classOf(9), -1);
         Check.due("6 classOf(2) of a new object", new FreeFlowToll().classOf(2), -1);
-        Check.badArgument("6 classOf(1) of a new object", none, () -> new FreeFlowToll().classOf(1));
+        Check.badArgument("6 classOf(1) of a new object", () -> new FreeFlowToll().classOf(1));
     }
 
     private static String links(int count) {

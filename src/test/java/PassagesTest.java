@@ -273,21 +273,21 @@ public final class PassagesTest {
         x.readTag(0, 0, 1, 0);
         x.readTag(0, 1, 1, 0);
         for (int p : new int[] {-1, 2, 79, 80, FAR[0], FAR[1]}) {
-            Check.badIndex("11 passageGantry(" + p + ")", x, () -> x.passageGantry(p));
-            Check.badIndex("12 passageTime(" + p + ")", x, () -> x.passageTime(p));
-            Check.badIndex("13 passageTag(" + p + ")", x, () -> x.passageTag(p));
-            Check.badIndex("14 passagePlate(" + p + ")", x, () -> x.passagePlate(p));
-            Check.badIndex("15 passageAxles(" + p + ")", x, () -> x.passageAxles(p));
-            Check.badIndex("16 votes(" + p + ", 5)", x, () -> x.votes(p, 5));
-            Check.badIndex("16 votes(" + p + ", -5)", x, () -> x.votes(p, -5));
-            Check.badIndex("17 exceptions(" + p + ")", x, () -> x.exceptions(p));
-            Check.badIndex("18 passageState(" + p + ")", x, () -> x.passageState(p));
-            Check.badIndex("19 tripOf(" + p + ")", x, () -> x.tripOf(p));
-            Check.badIndex("39 assignPlate(" + p + ", 5)", x, () -> x.assignPlate(p, 5));
-            Check.badIndex("39 assignPlate(" + p + ", 0)", x, () -> x.assignPlate(p, 0));
-            Check.badIndex("40 assignAxles(" + p + ", 5)", x, () -> x.assignAxles(p, 5));
-            Check.badIndex("40 assignAxles(" + p + ", 0)", x, () -> x.assignAxles(p, 0));
-            Check.badIndex("41 dismiss(" + p + ")", x, () -> x.dismiss(p));
+            Check.badIndex("11 passageGantry(" + p + ")", () -> x.passageGantry(p));
+            Check.badIndex("12 passageTime(" + p + ")", () -> x.passageTime(p));
+            Check.badIndex("13 passageTag(" + p + ")", () -> x.passageTag(p));
+            Check.badIndex("14 passagePlate(" + p + ")", () -> x.passagePlate(p));
+            Check.badIndex("15 passageAxles(" + p + ")", () -> x.passageAxles(p));
+            Check.badIndex("16 votes(" + p + ", 5)", () -> x.votes(p, 5));
+            Check.badIndex("16 votes(" + p + ", -5)", () -> x.votes(p, -5));
+            Check.badIndex("17 exceptions(" + p + ")", () -> x.exceptions(p));
+            Check.badIndex("18 passageState(" + p + ")", () -> x.passageState(p));
+            Check.badIndex("19 tripOf(" + p + ")", () -> x.tripOf(p));
+            Check.badIndex("39 assignPlate(" + p + ", 5)", () -> x.assignPlate(p, 5));
+            Check.badIndex("39 assignPlate(" + p + ", 0)", () -> x.assignPlate(p, 0));
+            Check.badIndex("40 assignAxles(" + p + ", 5)", () -> x.assignAxles(p, 5));
+            Check.badIndex("40 assignAxles(" + p + ", 0)", () -> x.assignAxles(p, 0));
+            Check.badIndex("41 dismiss(" + p + ")", () -> x.dismiss(p));
         }
         Check.due("what throws is no change", Check.undoAll(x), 2);
     }
@@ -300,21 +300,21 @@ public final class PassagesTest {
             {FAR[0], 0, 6}, {FAR[1], 0, 6}, {0, FAR[0], 6}, {0, FAR[1], 6}, {0, 0, FAR[0]}, {0, 0, FAR[1]}};
         for (int[] w : wrong) {
             String what = "(" + w[0] + ", " + w[1] + ", " + w[2] + ", ..)";
-            Check.badArgument("36 readTag" + what, x, () -> x.readTag(w[0], w[1], w[2], 0));
-            Check.badArgument("37 readPlate" + what, x, () -> x.readPlate(w[0], w[1], w[2], 5, 5));
-            Check.badArgument("38 readAxles" + what, x, () -> x.readAxles(w[0], w[1], w[2], 5));
+            Check.badArgument("36 readTag" + what, () -> x.readTag(w[0], w[1], w[2], 0));
+            Check.badArgument("37 readPlate" + what, () -> x.readPlate(w[0], w[1], w[2], 5, 5));
+            Check.badArgument("38 readAxles" + what, () -> x.readAxles(w[0], w[1], w[2], 5));
         }
         for (int tag : new int[] {-1, 3, 12, FAR[0], FAR[1]}) {
-            Check.badArgument("36 readTag of " + tag, x, () -> x.readTag(0, 0, 6, tag));
+            Check.badArgument("36 readTag of " + tag, () -> x.readTag(0, 0, 6, tag));
         }
         for (int plate : new int[] {0, -1, 10000, FAR[0], FAR[1]}) {
-            Check.badArgument("37 readPlate of " + plate, x, () -> x.readPlate(0, 0, 6, plate, 5));
+            Check.badArgument("37 readPlate of " + plate, () -> x.readPlate(0, 0, 6, plate, 5));
         }
         for (int confidence : new int[] {0, -1, 101, FAR[0], FAR[1]}) {
-            Check.badArgument("37 with confidence " + confidence, x, () -> x.readPlate(0, 0, 6, 5, confidence));
+            Check.badArgument("37 with confidence " + confidence, () -> x.readPlate(0, 0, 6, 5, confidence));
         }
         for (int axles : new int[] {1, 10, 0, -1, FAR[0], FAR[1]}) {
-            Check.badArgument("38 readAxles of " + axles, x, () -> x.readAxles(0, 0, 6, axles));
+            Check.badArgument("38 readAxles of " + axles, () -> x.readAxles(0, 0, 6, axles));
         }
         Check.due("37 plate 1, confidence 1", x.readPlate(0, 0, 5, 1, 1), 0);
         Check.due("37 plate 9999, confidence 100", x.readPlate(0, 0, 5, 9999, 100), 0);
@@ -323,25 +323,25 @@ public final class PassagesTest {
         Check.due("36 the last gantry, lane and tag", x.readTag(2, 3, 5, 2), 1);
         Check.due("what throws is no change", Check.undoAll(x), 6);
         FreeFlowToll empty = new FreeFlowToll();
-        Check.badArgument("36 without gantries", empty, () -> empty.readTag(0, 0, 0, 0));
-        Check.badArgument("37 without gantries", empty, () -> empty.readPlate(0, 0, 0, 5, 5));
-        Check.badArgument("38 without gantries", empty, () -> empty.readAxles(0, 0, 0, 5));
+        Check.badArgument("36 without gantries", () -> empty.readTag(0, 0, 0, 0));
+        Check.badArgument("37 without gantries", () -> empty.readPlate(0, 0, 0, 5, 5));
+        Check.badArgument("38 without gantries", () -> empty.readAxles(0, 0, 0, 5));
     }
 
     private static void timesNeverDecrease() {
         FreeFlowToll x = Check.with(NETWORK);
         Check.due("38 time 0", x.readAxles(0, 0, 0, 2), 0);
         Check.due("38 time 2", x.readAxles(0, 0, 2, 2), 0);
-        Check.badArgument("38 earlier than a joined reading", x, () -> x.readAxles(1, 0, 1, 2));
+        Check.badArgument("38 earlier than a joined reading", () -> x.readAxles(1, 0, 1, 2));
         Check.due("38 the same time", x.readAxles(1, 0, 2, 2), 1);
         x.dismiss(1);
-        Check.badArgument("36 earlier than a dismissed passage", x, () -> x.readTag(1, 0, 1, 0));
+        Check.badArgument("36 earlier than a dismissed passage", () -> x.readTag(1, 0, 1, 0));
         x.undo();
         x.undo();
         x.undo();
         Check.due("46 undo takes the time back", x.readAxles(1, 0, 1, 2), 1);
         Check.due("38 the last minute", x.readAxles(1, 0, 99999, 2), 2);
-        Check.badArgument("37 earlier than the last minute", x, () -> x.readPlate(1, 0, 99998, 2, 2));
+        Check.badArgument("37 earlier than the last minute", () -> x.readPlate(1, 0, 99998, 2, 2));
         Check.due("37 the last minute again", x.readPlate(1, 1, 99999, 2, 2), 3);
     }
 
@@ -351,24 +351,24 @@ public final class PassagesTest {
             Check.due("36 passage " + n, x.readTag(n % 3, 0, 10 * n, 0), n);
         }
         Check.due("10 passageCount", x.passageCount(), 80);
-        Check.badState("36 an 81st passage", x, () -> x.readTag(0, 0, 790, 0));
-        Check.badState("36 an 81st passage by another tag", x, () -> x.readTag(1, 0, 791, 1));
-        Check.badState("37 an 81st passage", x, () -> x.readPlate(2, 0, 800, 5, 5));
-        Check.badState("38 an 81st passage", x, () -> x.readAxles(2, 1, 790, 5));
-        Check.badArgument("36 the arguments come first", x, () -> x.readTag(2, 0, 800, 3));
-        Check.badArgument("37 the arguments come first", x, () -> x.readPlate(2, 0, 800, 5, 0));
-        Check.badArgument("38 the arguments come first", x, () -> x.readAxles(2, 0, 800, 1));
-        Check.badArgument("38 the time comes first", x, () -> x.readAxles(2, 0, 789, 2));
+        Check.badState("36 an 81st passage", () -> x.readTag(0, 0, 790, 0));
+        Check.badState("36 an 81st passage by another tag", () -> x.readTag(1, 0, 791, 1));
+        Check.badState("37 an 81st passage", () -> x.readPlate(2, 0, 800, 5, 5));
+        Check.badState("38 an 81st passage", () -> x.readAxles(2, 1, 790, 5));
+        Check.badArgument("36 the arguments come first", () -> x.readTag(2, 0, 800, 3));
+        Check.badArgument("37 the arguments come first", () -> x.readPlate(2, 0, 800, 5, 0));
+        Check.badArgument("38 the arguments come first", () -> x.readAxles(2, 0, 800, 1));
+        Check.badArgument("38 the time comes first", () -> x.readAxles(2, 0, 789, 2));
         Check.due("38 joining goes on", x.readAxles(1, 0, 792, 5), 79);
         Check.due("37 joining goes on", x.readPlate(1, 0, 792, 5, 90), 79);
         Check.due("36 joining goes on", x.readTag(1, 0, 792, 0), 79);
-        Check.badState("38 a refused reading leaves the time", x, () -> x.readAxles(1, 0, 793, 5));
+        Check.badState("38 a refused reading leaves the time", () -> x.readAxles(1, 0, 793, 5));
         Check.due("38 a refused reading leaves the time", x.readAxles(1, 0, 792, 5), 79);
         Check.due("15 the last passage", x.passageAxles(79), 5);
         Check.due("17 the last passage", x.exceptions(79), 6);
         Check.due("46 undo", x.undo(), 9);
         x.dismiss(79);
-        Check.badState("38 dismissed passages count", x, () -> x.readAxles(1, 0, 792, 5));
+        Check.badState("38 dismissed passages count", () -> x.readAxles(1, 0, 792, 5));
     }
 
     private static void assignments() {
@@ -391,10 +391,10 @@ public final class PassagesTest {
         Check.due("39 plate 1", x.assignPlate(0, 1), 6);
         Check.due("40 9 axles", x.assignAxles(0, 9), 2);
         for (int plate : new int[] {0, -1, 10000, FAR[0], FAR[1]}) {
-            Check.badArgument("39 plate " + plate, x, () -> x.assignPlate(0, plate));
+            Check.badArgument("39 plate " + plate, () -> x.assignPlate(0, plate));
         }
         for (int axles : new int[] {1, 10, 0, -1, FAR[0], FAR[1]}) {
-            Check.badArgument("40 axles " + axles, x, () -> x.assignAxles(0, axles));
+            Check.badArgument("40 axles " + axles, () -> x.assignAxles(0, axles));
         }
     }
 
@@ -420,11 +420,11 @@ public final class PassagesTest {
         x.bill(1);
         for (int passage = 0; passage < 2; passage++) {
             int p = passage;
-            Check.badState("39 assignPlate(" + p + ", 5)", x, () -> x.assignPlate(p, 5));
-            Check.badArgument("39 the plate comes first", x, () -> x.assignPlate(p, 0));
-            Check.badState("40 assignAxles(" + p + ", 5)", x, () -> x.assignAxles(p, 5));
-            Check.badArgument("40 the axles come first", x, () -> x.assignAxles(p, 10));
-            Check.badState("41 dismiss(" + p + ")", x, () -> x.dismiss(p));
+            Check.badState("39 assignPlate(" + p + ", 5)", () -> x.assignPlate(p, 5));
+            Check.badArgument("39 the plate comes first", () -> x.assignPlate(p, 0));
+            Check.badState("40 assignAxles(" + p + ", 5)", () -> x.assignAxles(p, 5));
+            Check.badArgument("40 the axles come first", () -> x.assignAxles(p, 10));
+            Check.badState("41 dismiss(" + p + ")", () -> x.dismiss(p));
         }
         Check.due("what throws is no change", Check.undoAll(x), 4);
     }

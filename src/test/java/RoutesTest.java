@@ -122,14 +122,14 @@ public final class RoutesTest {
             {0, Integer.MAX_VALUE, 0}, {0, 1, Integer.MIN_VALUE}, {0, 1, Integer.MAX_VALUE}, {10, 10, 100000}};
         for (int[] w : wrong) {
             String what = "(" + w[0] + ", " + w[1] + ", " + w[2] + ")";
-            Check.badArgument("7 routeLinks" + what, x, () -> x.routeLinks(w[0], w[1], w[2]));
-            Check.badArgument("8 routePrice" + what, x, () -> x.routePrice(w[0], w[1], w[2]));
-            Check.badArgument("9 routeGantry" + what, x, () -> x.routeGantry(w[0], w[1], w[2], 0));
-            Check.badArgument("9 routeGantry" + what, x, () -> x.routeGantry(w[0], w[1], w[2], -1));
+            Check.badArgument("7 routeLinks" + what, () -> x.routeLinks(w[0], w[1], w[2]));
+            Check.badArgument("8 routePrice" + what, () -> x.routePrice(w[0], w[1], w[2]));
+            Check.badArgument("9 routeGantry" + what, () -> x.routeGantry(w[0], w[1], w[2], 0));
+            Check.badArgument("9 routeGantry" + what, () -> x.routeGantry(w[0], w[1], w[2], -1));
         }
         FreeFlowToll empty = new FreeFlowToll();
-        Check.badArgument("7 without gantries", empty, () -> empty.routeLinks(0, 0, 0));
-        Check.badArgument("8 without gantries", empty, () -> empty.routePrice(0, 0, 0));
-        Check.badArgument("9 without gantries", empty, () -> empty.routeGantry(0, 0, 0, 0));
+        Check.badArgument("7 without gantries", () -> empty.routeLinks(0, 0, 0));
+        Check.badArgument("8 without gantries", () -> empty.routePrice(0, 0, 0));
+        Check.badArgument("9 without gantries", () -> empty.routeGantry(0, 0, 0, 0));
     }
 }
