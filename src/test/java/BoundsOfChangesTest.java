@@ -12,6 +12,7 @@ public final class BoundsOfChangesTest {
         latestTen();
         latestFirst();
         everyChange();
+        changesThatShowNothing();
         noChanges();
         noChangeByText();
         nothingToUndo();
@@ -123,6 +124,25 @@ public final class BoundsOfChangesTest {
         undone("dispute", x -> x.dispute(1));
         undone("resolve, credited", x -> x.resolve(0, true));
         undone("resolve, confirmed", x -> x.resolve(0, false));
+    }
+
+    /** "change the data if they succeed": also where no answer shows it. */
+    private static void changesThatShowNothing() {
+        Bounds.Asked[] changes = {x -> x.assignPlate(0, 9), x -> x.assignAxles(0, 4), x -> x.readTag(0, 0, 10, 0),
+            x -> x.readPlate(0, 0, 10, 5, 5)};
+        for (Bounds.Asked change : changes) {
+            FreeFlowToll x = Check.with(NETWORK);
+            x.readTag(0, 0, 10, 0);
+            x.assignPlate(0, 9);
+            x.assignAxles(0, 4);
+            for (int plate = 1; plate <= 4; plate++) {
+                x.readPlate(0, 0, 10, plate, 5);
+            }
+            String before = Bounds.answers(x);
+            change.of(x);
+            Check.same("nothing to be seen", Bounds.answers(x), before);
+            Check.due("eight changes", Check.undoAll(x), 8);
+        }
     }
 
     private static void noChange(String what, Bounds.Asked call) {

@@ -470,6 +470,8 @@ public final class BoundsOfReadingsTest {
         Check.due("in place of one that was undone", y.votes(0, 50), 60);
         y.readPlate(0, 0, 10, 4, 60);
         Check.due("which is the fifth now", y.votes(0, 4), 0);
+        y.readPlate(0, 0, 12, 4, 60);
+        Check.due("a reading that is not counted is still the latest", Bounds.earliest(y), 12);
     }
 
     /** "At most 4 different plates are kept for a passage": for each passage, up to the last. */
